@@ -1217,6 +1217,8 @@ public final class BellWaves {
     /** All trades of buses against wishes; bells of all schools are one code, school 0's digit the highest. */
     private static final class Market {
         private static final int REFUSED = -1;
+        /** Above every cost. */
+        private static final int UNKNOWN = 1000000;
 
         int count;
         private int schools;
@@ -1237,7 +1239,7 @@ public final class BellWaves {
                     price[s][b] = may ? district.costOf(s, b) : REFUSED;
                 }
             }
-            Arrays.fill(cheapest, Integer.MAX_VALUE);
+            Arrays.fill(cheapest, UNKNOWN);
             for (int c = 0; c < codes; c++) {
                 decode(c);
                 int cost = priceOfBells();
@@ -1278,7 +1280,7 @@ public final class BellWaves {
 
         private void list() {
             count = 0;
-            int lowest = Integer.MAX_VALUE;
+            int lowest = UNKNOWN;
             for (int buses = 0; buses <= MOST_STOPS; buses++) {
                 if (cheapest[buses] < lowest) {
                     lowest = cheapest[buses];

@@ -27,6 +27,7 @@ public final class LanguageTest {
         none(code, "no lambda and no method reference", "->|::");
         none(code, "no import but Arrays", "import (?!java\\.util\\.Arrays;)");
         none(code, "no library but what is listed", "\\b(System\\.(?!arraycopy)|Arrays\\.(?!(copyOf|copyOfRange|fill)\\b))");
+        none(code, "of Integer, Long and Math functions alone", "\\b(Integer|Long|Math)\\.(?!(abs|max|min|bitCount)\\()");
         none(code, "no static state", "static (?!final |boolean |int |void )");
         none(code, "no static block", "static\\s*\\{");
         none(code, "no array of objects in two dimensions", "new [A-Z]\\w*\\[[^\\]]*\\]\\[");
