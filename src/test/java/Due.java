@@ -28,6 +28,18 @@ final class Due {
         is(what, so ? 1 : 0, 1);
     }
 
+    /** A sentence of the document, and rows of calls on a new object that would answer otherwise if it were broken. */
+    void says(String sentence, String... rows) {
+        Run.holds(this, sentence, rows);
+    }
+
+    /** Each of some calls, on an object of its own that rows have built, answers a finding and changes nothing. */
+    void refuses(String sentence, String built, String finding, String... calls) {
+        for (String call : calls) {
+            Run.holds(this, sentence, built, call + " = " + finding);
+        }
+    }
+
     /** Prints the sum, and ends the program with exit code 1 if an answer was wrong. */
     void end() {
         System.out.println(test + ": " + (asked - wrong) + " of " + asked + " answers are as due");

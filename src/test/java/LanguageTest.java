@@ -16,22 +16,27 @@ public final class LanguageTest {
     }
 
     private static void none(String code, String what, String pattern) {
-        Matcher m = Pattern.compile(pattern).matcher(code);
+        Matcher m = Pattern.compile(pattern, Pattern.MULTILINE).matcher(code);
         boolean found = m.find();
         DUE.holds(what + (found ? " at '" + m.group() + "'" : ""), !found);
     }
 
     private static void words(String code) {
-        none(code, "no forbidden word", "\\b(throw|throws|try|catch|finally|synchronized|assert|package|native|volatile|Object|"
-            + "Random|Thread|Runtime|Exact|equals|hashCode|toString|getClass|double|float|var|sealed|yield)\\b");
-        none(code, "no lambda and no method reference", "->|::");
-        none(code, "no import but Arrays", "import (?!java\\.util\\.Arrays;)");
-        none(code, "no library but what is listed", "\\b(System\\.(?!arraycopy)|Arrays\\.(?!(copyOf|copyOfRange|fill)\\b))");
-        none(code, "of Integer, Long and Math functions alone", "\\b(Integer|Long|Math)\\.(?!(abs|max|min|bitCount)\\()");
-        none(code, "no static state", "static (?!final |boolean |int |void )");
-        none(code, "no static block", "static\\s*\\{");
-        none(code, "no array of objects in two dimensions", "new [A-Z]\\w*\\[[^\\]]*\\]\\[");
-        DUE.is("top classes and classes inside", code.split("\\bclass\\b").length - 1, 12);
+        none(code, "1: no package", "\\bpackage\\b");
+        none(code, "2: no lambda", "^(?!\\s*(case|default)\\b).*->");
+        none(code, "2: no method reference", "::");
+        none(code, "4: no import but what is listed", "\\bimport (?!java\\.util\\.(Arrays|ArrayList|List|Iterator);)");
+        none(code, "4: of System arraycopy alone", "\\bSystem\\.(?!arraycopy\\()");
+        none(code, "4: of Arrays three functions alone", "\\bArrays\\.(?!(copyOf|copyOfRange|fill)\\()");
+        none(code, "4: of Integer, Long and Math functions over int and long alone", "\\b(Integer|Long|Math)\\.(?![a-z]\\w*\\()");
+        none(code, "4: none whose name ends in Exact, no random", "\\b(\\w+Exact|random)\\(");
+        none(code, "5: static fields are final", "\\bstatic (?!final\\b)[\\w\\[\\]<> ]+[=;]");
+        none(code, "5: no static block", "\\bstatic\\s*\\{");
+        none(code, "6: no forbidden word", "\\b(throw|throws|try|catch|finally|synchronized|assert|native|volatile|hashCode|getClass)\\b");
+        none(code, "3: no array of objects in two dimensions", "new [A-Z]\\w*\\[[^\\]]*\\]\\[");
+        none(code, "13: no clock, no thread, no environment", "\\b(Random|Thread|Runtime|Process|File|Instant)\\b");
+        int classes = code.split("\\b(class|record|enum|interface) [A-Z]").length - 1;
+        DUE.holds("11: some twelve classes, not " + classes, classes <= 13);
     }
 
     private static void methods(String code) {

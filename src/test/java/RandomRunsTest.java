@@ -12,6 +12,7 @@ public final class RandomRunsTest {
     private final int run;
     private final int mostStops;
     private final int fewestCorners;
+    private int asked;
 
     private RandomRunsTest(int run, Due due) {
         this.run = run;
@@ -48,6 +49,7 @@ public final class RandomRunsTest {
     }
 
     private void same(String call, int got, int want) {
+        asked++;
         due.is("run " + run + ": " + call, got, want);
     }
 
@@ -265,7 +267,8 @@ public final class RandomRunsTest {
 
     private void run() {
         build();
-        for (int c = 0; c < CALLS; c++) {
+        // A row of calls asks twelve things at most, and seven are asked at the end: nothing is promised behind 512.
+        for (int c = 0; c < CALLS && asked + 19 <= Run.MOST_CALLS; c++) {
             switch (chance.nextInt(10)) {
                 case 0: townCall(); break;
                 case 1: case 2: schoolCall(); break;

@@ -3,12 +3,16 @@ import java.util.Random;
 /** Whole towns with many routes by chance, from fixed seeds: all that can be asked of each is held against Model. */
 public final class RandomTownsTest {
     private static final int TOWNS = 250;
+    /** The most that bells and chains ask in a round, and trades and the chains behind them at the end. */
+    private static final int ROUND = 93;
+    private static final int LAST = 148;
 
     private final Random chance;
     private final BellWaves x = new BellWaves();
     private final Model m = new Model();
     private final Due due;
     private final int town;
+    private int asked;
 
     private RandomTownsTest(int town, Due due) {
         this.town = town;
@@ -16,8 +20,10 @@ public final class RandomTownsTest {
         chance = new Random(town * 104729L + 5);
     }
 
-    private void same(String call, int got, int want) {
+    private int same(String call, int got, int want) {
+        asked++;
         due.is("town " + town + ": " + call, got, want);
+        return got;
     }
 
     private int upTo(int most) {
@@ -89,16 +95,14 @@ public final class RandomTownsTest {
     }
 
     private void askChains() {
-        same("all()", x.all(), m.all());
-        same("buses()", x.buses(), m.buses());
+        int all = Math.max(0, same("all()", x.all(), m.all()));
+        int buses = Math.max(0, same("buses()", x.buses(), m.buses()));
         same("aides()", x.aides(), m.aides());
-        int all = Math.max(0, m.all());
         for (int a = 0; a < all; a++) {
             same("start(" + a + ")", x.start(a), m.start(a));
             int b = chance.nextInt(all);
             same("follows(" + a + ", " + b + ")", x.follows(a, b), m.follows(a, b));
         }
-        int buses = all == 0 ? 0 : x.buses();
         for (int bus = 0; bus < buses; bus++) {
             for (int i = 0; i < 5; i++) same("chain(" + bus + ", " + i + ")", x.chain(bus, i), m.chain(bus, i));
         }
@@ -111,8 +115,7 @@ public final class RandomTownsTest {
 
     private void askTrades() {
         same("cost()", x.cost(), m.cost());
-        same("trades()", x.trades(), m.trades());
-        int trades = Math.max(0, x.trades());
+        int trades = Math.max(0, same("trades()", x.trades(), m.trades()));
         for (int i = 0; i < trades; i++) {
             for (int what = 0; what < 2 + m.told(2); what++) {
                 same("trade(" + i + ", " + what + ")", x.trade(i, what), m.trade(i, what));
@@ -125,12 +128,13 @@ public final class RandomTownsTest {
     private void run() {
         build();
         askPlans();
-        for (int round = 0; round < 3; round++) {
+        for (int round = 0; round < 3 && asked + ROUND + LAST <= Run.MOST_CALLS; round++) {
             ringAll();
             askChains();
         }
         askTrades();
         askChains();
+        due.holds("town " + town + " asks few enough things", asked <= Run.MOST_CALLS);
     }
 
     public static void main(String[] args) {
