@@ -48,7 +48,8 @@ public final class EdgesTest {
         int schools = upTo(4);
         for (int s = 0; s < schools; s++) calls.add("school(" + chance.nextInt(4) + ", " + chance.nextInt(corners) + ")");
         for (int s = upTo(7); s > 0; s--) {
-            calls.add("stop(" + chance.nextInt(schools) + ", " + chance.nextInt(corners) + ", " + upTo(30) + ", " + chance.nextInt(4) + ")");
+            String where = chance.nextInt(schools) + ", " + chance.nextInt(corners);
+            calls.add("stop(" + where + ", " + upTo(30) + ", " + chance.nextInt(4) + ")");
         }
         for (int s = 0; s < schools; s++) calls.add("bell(" + s + ", " + chance.nextInt(7) + ")");
         return calls;

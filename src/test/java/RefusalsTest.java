@@ -1,6 +1,6 @@
 /**
- * "an act that answers one changes nothing but what told(6) tells, or where told": every act is refused, for each of its findings, where
- * there is much that could change.
+ * "Each act tells its findings in the order in which they are asked; an act that answers one changes nothing but what told(6)
+ * tells, or where told": every act is refused, for each of its findings, where there is much that could change.
  */
 public final class RefusalsTest {
     private static final Due DUE = new Due("RefusalsTest");
@@ -28,6 +28,34 @@ public final class RefusalsTest {
 
     private static void refuses(String built, String finding, String... calls) {
         DUE.refuses(SENTENCE, built, finding, calls);
+    }
+
+    /** Two findings or more could be told: it is the first one that is asked for. */
+    private static void order() {
+        String sentence = "Each act tells its findings in the order in which they are asked";
+        DUE.says(sentence, FULL, "street(0, 0, 1) = BEYOND; street(0, 8, 1) = BEYOND; street(0, 1, 21) = BEYOND",
+            "street(0, 1, 20) = FULL");
+        DUE.says(sentence, FULL, "school(4, 0) = BEYOND; school(0, 8) = BEYOND; school(0, 7) = FULL");
+        DUE.says(sentence, FULL, "stop(4, 0, 1, 0) = BEYOND; stop(0, 8, 1, 0) = BEYOND; stop(0, 0, 31, 0) = BEYOND",
+            "stop(0, 0, 1, 4) = BEYOND; stop(0, 0, 1, 3) = FULL");
+        DUE.says(sentence, FULL, "feed(0, 9) = BEYOND; feed(0, 0) = BEYOND; feed(0, 8) = FULL");
+        DUE.says(sentence, RICH, "as(9, 1) = BEYOND; as(0, 4) = BEYOND; as(0, 3) = KIND");
+        DUE.says(sentence, NO_PLAN, "routes(3) = BEYOND; routes(1) = NONE; route(1, -1, 0) = BEYOND; route(1, 0, -2) = BEYOND",
+            "route(1, 9, 0) = NONE; ride(6) = BEYOND; ride(4) = NONE");
+        DUE.says(sentence, NO_PLAN, "start(-1) = BEYOND; start(9) = NONE; follows(9, 9) = BEYOND; follows(-1, 9) = BEYOND",
+            "follows(9, -1) = BEYOND; follows(9, 8) = NONE");
+        DUE.says(sentence, NO_PLAN, "chain(9, -1) = BEYOND; chain(-1, 9) = BEYOND; chain(9, 9) = NONE; trade(9, 5) = BEYOND",
+            "trade(9, -1) = BEYOND; trade(-1, 0) = BEYOND; trade(9, 4) = NONE");
+        DUE.says(sentence, NO_PLAN, "take(-1) = BEYOND; take(9) = NONE; morning(9, 61, 0) = BEYOND; morning(9, 0, 11) = BEYOND",
+            "morning(-1, 0, 0) = BEYOND; morning(9, 60, 10) = NONE");
+        DUE.says(sentence, NO_PLAN, "comes(-1) = BEYOND; comes(9) = NONE; fair(4, 1) = BEYOND; fair(-1, 2) = BEYOND",
+            "fair(0, 2) = NONE");
+        DUE.says(sentence, RICH, "sheet(4, 8, -1) = BEYOND; sheet(0, 9, -1) = BEYOND; sheet(0, 8, -1) = SIZE",
+            "sheet(0, 8, 11) = BEYOND");
+        DUE.says(sentence, RICH, "write(4, 99, 0) = BEYOND; write(3, 99, 0) = MISSING; write(0, 99, 0) = BEYOND",
+            "read(4, 99) = BEYOND; read(3, 99) = MISSING; read(0, 99) = BEYOND");
+        DUE.says(sentence, RICH, "copy(3, 0, 4, 0, -1) = BEYOND; copy(4, 0, 3, 0, -1) = BEYOND; copy(3, 0, 1, 0, -1) = MISSING",
+            "copy(0, 0, 3, 9, 9) = MISSING; copy(0, 9, 1, 0, 9) = KIND; copy(1, 0, 0, 0, -1) = KIND; copy(0, 9, 0, 0, 9) = BEYOND");
     }
 
     private static void town() {
@@ -83,6 +111,7 @@ public final class RefusalsTest {
     }
 
     public static void main(String[] args) {
+        order();
         town();
         routes();
         rules();

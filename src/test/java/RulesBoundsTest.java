@@ -46,8 +46,8 @@ public final class RulesBoundsTest {
     }
 
     private static void rows() {
-        DUE.says("rows of a letter (s SCHOOL, l LOWER, u UPPER, x SPECIAL), a digit, a -, a digit, and a ; one behind the "
-            + "other, at most 8", Run.tape(EIGHT), "told(5) = 40; text() = 8; told(4) = 8");
+        String row = "rows of a letter (s SCHOOL, l LOWER, u UPPER, x SPECIAL), a digit, a -, a digit, and a ;";
+        DUE.says(row + " one behind the other, at most 8", Run.tape(EIGHT), "told(5) = 40; text() = 8; told(4) = 8");
         String sentence = "WRONG is the place of the first byte that can't stand there (of a 9th letter, too), the length if "
             + "the TEXT ends in the midst.";
         wrong(sentence, 0, "S0-6;", "r0-6;", "t0-6;", "k0-6;", "m0-6;", "v0-6;", "w0-6;", "y0-6;", "00-6;", ";", "-", " s0-6;",
@@ -65,7 +65,6 @@ public final class RulesBoundsTest {
 
     private static void ends() {
         String sentence = "the length if the TEXT ends in the midst";
-        String nine = EIGHT.substring(0, 35);
         for (int n = 1; n < 40; n++) {
             if (n % 5 != 0) {
                 wrong(sentence, n, EIGHT.substring(0, n));
@@ -74,7 +73,7 @@ public final class RulesBoundsTest {
             }
         }
         wrong("(of a 9th letter, too)", 40, EIGHT + "s", EIGHT + "l", EIGHT + "u", EIGHT + "x", EIGHT + "s0-6;", EIGHT + "q",
-            EIGHT + "s0", EIGHT + nine.substring(0, 20));
+            EIGHT + "s0", EIGHT + EIGHT.substring(0, 20));
     }
 
     private static void digits() {

@@ -91,6 +91,9 @@ public final class SchoolsBoundsTest {
         DUE.says("with PUPILS (1 to 30) of a QUARTER (0 to 3)", two, "stop(0, 0, 0, 0) = BEYOND; stop(0, 0, 1, 0) = 0",
             "stop(0, 0, 30, 3) = 1; stop(0, 0, 31, 3) = BEYOND; stop(0, 0, 1, -1) = BEYOND; stop(0, 0, 1, 4) = BEYOND",
             "fair(0, 0) = 1; fair(1, 0) = 0; fair(2, 0) = 0; fair(3, 0) = 30");
+        DUE.says("are each of a SCHOOL, at a CORNER", Run.line(8, 1), Run.times(4, "school(0, 0)"),
+            Run.times(4, "stop(#, 7, 1, 0)"), "stop(3, 0, 1, 0) = 4; ride(0) = 8; ride(2) = 8; ride(3) = 9; ride(4) = 1",
+            "of(3, 4) = 2; of(2, 4) = 1; stop(3, 8, 1, 0) = BEYOND; stop(4, 7, 1, 0) = BEYOND");
         String sentence = "A new STOP: its number. BEYOND: no such SCHOOL, CORNER, or a number is not as told. FULL.";
         DUE.says(sentence, TOWN, "stop(2, 1, 30, 3) = 4; stop(0, 0, 1, 0) = 5; told(3) = 6; of(2, 4) = 2; of(2, 5) = 60",
             "told(6) = 0");

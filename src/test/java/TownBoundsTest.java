@@ -8,6 +8,8 @@ public final class TownBoundsTest {
     }
 
     private static void findings() {
+        DUE.says("FINDINGS are answers below -1000000", Run.corners(8), "far(0, 1) = -1000004; corner() = -1000002; told(6) = 2",
+            Run.times(8, "far(#, #) = 0"), "told(6) = 2");
         DUE.says("-1000001 BEYOND", "told(7) = -1000001");
         DUE.says("-1000002 FULL", Run.corners(8), "corner() = -1000002");
         DUE.says("-1000003 KIND", Run.corners(1), "school(0, 0); as(0, 1) = -1000003");
