@@ -1,22 +1,30 @@
+import java.io.IOException;
 import java.lang.reflect.Constructor;
 import java.lang.reflect.Field;
 import java.lang.reflect.Method;
 import java.lang.reflect.Modifier;
+import java.nio.file.Files;
+import java.nio.file.Path;
 import java.util.ArrayList;
 import java.util.Collections;
 import java.util.List;
+import java.util.regex.Matcher;
+import java.util.regex.Pattern;
 
 /** The public face is the document's, and nothing else of the class can be seen from outside. */
 public final class FaceTest {
     private static final Due DUE = new Due("FaceTest");
 
-    private static final String[] FACE = {
-        "corner()", "street(int, int, int)", "shut(int, boolean)", "far(int, int)", "school(int, int)", "as(int, int)",
-        "of(int, int)", "bell(int, int)", "wish(int, int)", "stop(int, int, int, int)", "pupils(int, int)", "gone(int)",
-        "terms(int, int, int)", "routes(int)", "route(int, int, int)", "ride(int)", "all()", "start(int)",
-        "follows(int, int)", "buses()", "chain(int, int)", "aides()", "feed(long, int)", "text()", "allowed(int, int)",
-        "cost()", "trades()", "trade(int, int)", "take(int)", "morning(int, int, int)", "comes(int)", "fair(int, int)",
-        "sheet(int, int, int)", "write(int, int, int)", "copy(int, int, int, int, int)", "read(int, int)", "told(int)"};
+    /** The document's block of Java, each method as "name(kinds)". */
+    private static List<String> face() {
+        String block = Run.document().split("```java\n", 2)[1].split("```", 2)[0];
+        List<String> face = new ArrayList<>();
+        Matcher m = Pattern.compile("public int (\\w+)\\((.*)\\);").matcher(block);
+        while (m.find()) {
+            face.add(m.group(1) + "(" + m.group(2).replaceAll("(\\w+) \\w+", "$1") + ")");
+        }
+        return face;
+    }
 
     private static String told(Method m) {
         List<String> kinds = new ArrayList<>();
@@ -38,7 +46,8 @@ public final class FaceTest {
                 DUE.holds(m + " is private", Modifier.isPrivate(m.getModifiers()));
             }
         }
-        List<String> due = new ArrayList<>(List.of(FACE));
+        List<String> due = face();
+        DUE.is("methods of the document's face", due.size(), 37);
         Collections.sort(due);
         Collections.sort(seen);
         DUE.holds("the public methods are " + due + " and not " + seen, due.equals(seen));
@@ -72,9 +81,28 @@ public final class FaceTest {
         DUE.holds("the class is public and final", Modifier.isPublic(of) && Modifier.isFinal(of));
     }
 
-    public static void main(String[] args) {
+    /** "Ahead of the calls .. the interface says: ---- .": the class says it ahead of these methods, in the face's order. */
+    private static void headings() throws IOException {
+        String document = Run.document();
+        StringBuilder due = new StringBuilder();
+        Matcher m = Pattern.compile("Ahead of the calls (.*) the interface says: (---- .*)\\.").matcher(document);
+        while (m.find()) {
+            due.append(m.group(2)).append('\n').append(m.group(1).replace("`", "").replace(", ", "\n")).append('\n');
+        }
+        StringBuilder seen = new StringBuilder();
+        String text = Files.readString(Path.of("src/main/java/BellWaves.java"));
+        m = Pattern.compile("^    (?:// (---- .*)|public int (\\w+)\\(.*)$", Pattern.MULTILINE).matcher(text);
+        while (m.find()) {
+            seen.append(m.group(1) == null ? m.group(2) : m.group(1)).append('\n');
+        }
+        DUE.holds("the class begins with '" + due + "' and not '" + seen + "'",
+            due.length() > 0 && seen.toString().startsWith(due.toString()));
+    }
+
+    public static void main(String[] args) throws IOException {
         methods();
         members();
+        headings();
         DUE.end();
     }
 }

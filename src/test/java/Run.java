@@ -8,6 +8,7 @@ import java.util.ArrayList;
 import java.util.HashMap;
 import java.util.List;
 import java.util.Map;
+import java.util.Set;
 
 /**
  * A run of calls on a new object for one sentence of the document, told in rows: "street(0, 1, 20) = 0; far(0, 1) = 20".
@@ -186,7 +187,12 @@ final class Run {
         return face;
     }
 
-    private static String document() {
+    /** The names of all public methods. */
+    static Set<String> names() {
+        return FACE.keySet();
+    }
+
+    static String document() {
         try {
             return Files.readString(Path.of("../shared/DOC.md"));
         } catch (IOException e) {
