@@ -6,7 +6,7 @@ import java.util.Comparator;
 import java.util.List;
 import java.util.Random;
 
-/** By chance, from fixed seeds: no call throws, whatever numbers it is given; one that is refused changes nothing; nor does asking. */
+/** By chance, from fixed seeds: no call throws, whatever numbers it is given; a refused one changes nothing, nor does asking. */
 public final class EdgesTest {
     private static final int RUNS = 400;
     private static final int[] EDGES = {Integer.MIN_VALUE, Integer.MIN_VALUE + 1, -1000001, -2, -1, 0, 1, 2, 3, 4, 5, 6, 7, 8,
@@ -15,8 +15,8 @@ public final class EdgesTest {
     private static final Due DUE = new Due("EdgesTest");
 
     private final Random chance;
-    private final Method[] face = Arrays.stream(BellWaves.class.getDeclaredMethods()).filter(m -> Modifier.isPublic(m.getModifiers()))
-        .sorted(Comparator.comparing(Method::getName)).toArray(Method[]::new);
+    private final Method[] face = Arrays.stream(BellWaves.class.getDeclaredMethods())
+        .filter(m -> Modifier.isPublic(m.getModifiers())).sorted(Comparator.comparing(Method::getName)).toArray(Method[]::new);
 
     private EdgesTest(int seed) {
         chance = new Random(seed);

@@ -1,6 +1,12 @@
 import java.io.IOException;
+import java.lang.reflect.Modifier;
 import java.nio.file.Files;
 import java.nio.file.Path;
+import java.util.ArrayList;
+import java.util.Arrays;
+import java.util.List;
+import java.util.Map;
+import java.util.TreeMap;
 import java.util.regex.Matcher;
 import java.util.regex.Pattern;
 
@@ -39,20 +45,80 @@ public final class LanguageTest {
         DUE.holds("11: some twelve classes, not " + classes, classes <= 13);
     }
 
-    private static void methods(String code) {
+    /** The body of each method under "Class.method". */
+    private static Map<String, String> bodies(String code) {
+        Pattern inside = Pattern.compile("^    (?! )[\\w ]*\\bclass (\\w+)");
+        Pattern whole = Pattern.compile("^(    |        )(?! )[\\w\\[\\] ]*\\b(\\w+)\\(.*\\{$");
+        Map<String, String> bodies = new TreeMap<>();
         String[] lines = code.split("\n");
-        int begin = -1;
+        String owner = "BellWaves";
+        String name = "";
         String indent = "";
+        int begin = -1;
         for (int i = 0; i < lines.length; i++) {
-            Matcher m = Pattern.compile("^(    |        )(?! )[\\w\\[\\] ]*\\w\\(.*\\{$").matcher(lines[i]);
-            if (m.find()) {
+            Matcher c = inside.matcher(lines[i]);
+            Matcher m = whole.matcher(lines[i]);
+            if (c.find()) {
+                owner = c.group(1);
+            } else if (m.find()) {
                 begin = i;
                 indent = m.group(1);
+                name = owner + "." + m.group(2);
             }
             if (begin >= 0 && lines[i].equals(indent + "}")) {
-                DUE.holds("at most sixty lines from line " + (begin + 1), i - begin < 60);
+                DUE.holds("11: " + name + " has at most sixty lines", i - begin < 60);
+                bodies.merge(name, String.join("\n", Arrays.copyOfRange(lines, begin + 1, i)), String::concat);
                 begin = -1;
             }
+        }
+        return bodies;
+    }
+
+    /** What a call within a class can mean: with a dot ahead of it a method of another class, else of its own or of BellWaves. */
+    private static List<String> meant(Map<String, String> bodies, String owner, String called, boolean dot) {
+        List<String> meant = new ArrayList<>();
+        for (String name : bodies.keySet()) {
+            boolean own = name.startsWith(owner + ".") || name.startsWith("BellWaves.");
+            if (name.endsWith("." + called) && dot != own) {
+                meant.add(name);
+            }
+        }
+        return meant;
+    }
+
+    /** How deep calls go that begin with one; more than a hundred if they can come to themselves. */
+    private static int depth(Map<String, String> bodies, String name, int above) {
+        int deepest = 0;
+        Matcher m = Pattern.compile("(new |\\.|\\b)(\\w+)\\(").matcher(bodies.get(name));
+        while (above < 100 && m.find()) {
+            String owner = name.substring(0, name.indexOf('.'));
+            for (String next : meant(bodies, owner, m.group(2), m.group(1).equals("."))) {
+                deepest = Math.max(deepest, depth(bodies, next, above + 1));
+            }
+        }
+        return 1 + deepest;
+    }
+
+    private static void methods(String code) {
+        Map<String, String> bodies = bodies(code);
+        for (String name : Run.names()) {
+            DUE.holds("the body of " + name + "() is found", bodies.containsKey("BellWaves." + name));
+            int deep = depth(bodies, "BellWaves." + name, 0);
+            DUE.holds("11: calls from " + name + "() go at most eight deep, not " + deep, deep <= 8);
+        }
+        for (String name : bodies.keySet()) {
+            // Rows are made with their objects, and the planner with the first plan: a call that makes more would fill the room.
+            boolean may = name.matches("(\\w+)\\.\\1|BellWaves.drawPlans");
+            DUE.holds("12: " + name + "() makes nothing", may || !bodies.get(name).matches("(?s).*\\bnew\\b.*"));
+        }
+    }
+
+    private static void fields() {
+        List<Class<?>> all = new ArrayList<>(List.of(BellWaves.class.getDeclaredClasses()));
+        all.add(BellWaves.class);
+        for (Class<?> c : all) {
+            long count = Arrays.stream(c.getDeclaredFields()).filter(f -> !Modifier.isStatic(f.getModifiers())).count();
+            DUE.holds("11: " + c + " has some twenty fields, not " + count, count <= 20);
         }
     }
 
@@ -60,6 +126,7 @@ public final class LanguageTest {
         String code = code();
         words(code);
         methods(code);
+        fields();
         DUE.end();
     }
 }

@@ -154,8 +154,8 @@ public final class PlansBoundsTest {
 
     private static void route() {
         String stops = "STOP k (from 0) of ROUTE i (from 0) of THE PLAN of a SCHOOL; -1 behind its last one (no finding)";
-        DUE.says(stops + "; k -1: its LENGTH.", TOWN, route(0, 0, 5, 0), route(0, 1, 9, 2), route(1, 0, 5, 1), "route(0, 0, 9) = -1; route(0, 1, 10) = -1",
-            "route(1, 0, MAX) = -1; told(6) = 0");
+        DUE.says(stops + "; k -1: its LENGTH.", TOWN, route(0, 0, 5, 0), route(0, 1, 9, 2), route(1, 0, 5, 1),
+            "route(0, 0, 9) = -1; route(0, 1, 10) = -1; route(1, 0, MAX) = -1; told(6) = 0");
         String sentence = "BEYOND: no such SCHOOL, i is below 0, or k below -1. NONE: it has no PLAN, or no such ROUTE.";
         DUE.refuses(sentence, TOWN, "BEYOND", "route(-1, 0, 0)", "route(3, 0, 0)", "route(MIN, 0, 0)", "route(MAX, 0, 0)",
             "route(0, -1, 0)", "route(0, MIN, 0)", "route(0, 0, -2)", "route(0, 0, MIN)", "route(0, 2, -2)", "route(0, -1, -1)");
